@@ -770,12 +770,12 @@ public final class Schoolhours {
         }
 
         boolean isOf(int lesson, boolean isTeacher, int who) {
-            return ofLesson(lesson, isTeacher ? TEACHER : GROUP) == who;
+            return cells[LESSON_ROWS + lesson * LESSON_WIDTH + (isTeacher ? TEACHER : GROUP)] == who;
         }
 
         /** The set of the slots that a lesson takes, one or two of them. */
         int slotsTaken(int lesson, int[] slots) {
-            return (ofLesson(lesson, DOUBLE) == 1 ? 3 : 1) << slots[lesson];
+            return (cells[LESSON_ROWS + lesson * LESSON_WIDTH + DOUBLE] == 1 ? 3 : 1) << slots[lesson];
         }
 
         int slotsOfPerson(boolean isTeacher, int who, int[] slots) {
@@ -866,7 +866,7 @@ public final class Schoolhours {
         final int[] behind = new int[LESSONS];
         final int[] rivals = new int[LESSONS];
         final int[] rooms = new int[LESSONS];
-        final int[] roomOf = new int[LESSONS];
+        final int[] given = new int[LESSONS];
 
         /** Takes over the lessons, and of the wishes those of a set alone, as if they were hard. */
         void take(School school, int wishes) {
@@ -980,11 +980,11 @@ public final class Schoolhours {
             for (int slot = 0; slot < SLOTS; slot++) {
                 for (int lesson = 0; lesson < total; lesson++) {
                     if (slots[lesson] == slot) {
-                        roomOf[lesson] = rooms[lesson] == LESSONS ? NONE : leastRoom(slots, lesson);
+                        given[lesson] = rooms[lesson] == LESSONS ? NONE : leastRoom(slots, lesson);
                     }
                 }
             }
-            return roomOf[asked];
+            return given[asked];
         }
 
         int leastRoom(int[] slots, int lesson) {
@@ -993,7 +993,7 @@ public final class Schoolhours {
                 boolean isAhead = slots[other] < slots[lesson] || slots[other] == slots[lesson] && other < lesson;
                 boolean meets = (shape[other] << slots[other] & shape[lesson] << slots[lesson]) != 0;
                 if (isAhead && meets && (rivals[lesson] >> other & 1) != 0) {
-                    used |= 1 << roomOf[other];
+                    used |= 1 << given[other];
                 }
             }
             int room = 0;
@@ -1077,7 +1077,7 @@ public final class Schoolhours {
                 return false;
             }
             for (int day = 0; day < DAYS; day++) {
-                canStand(day, chosen[day], 0);
+                canStand(rules, trial, day, chosen[day], 0);
             }
             System.arraycopy(trial, 0, table, 0, LESSONS);
             return true;
@@ -1102,9 +1102,7 @@ public final class Schoolhours {
         private boolean canChoose(int day, int from, int set, int placed) {
             for (int lesson = from; lesson < rules.total; lesson++) {
                 if ((placed >> lesson & 1) == 0) {
-                    int more = set | 1 << lesson;
-                    if (mayJoin(day, lesson, set, placed) && fits(day, more)
-                            && canChoose(day, lesson + 1, more, placed)) {
+                    if (canTakeIn(day, lesson, set, placed)) {
                         return true;
                     }
                     if (mustJoin(day, lesson, set)) {
@@ -1114,6 +1112,19 @@ public final class Schoolhours {
             }
             chosen[day] = set;
             return canPlaceFrom(day + 1, placed | set);
+        }
+
+        private boolean canTakeIn(int day, int lesson, int set, int placed) {
+            if (!mayJoin(day, lesson, set, placed)) {
+                return false;
+            }
+            int more = set | 1 << lesson;
+            int known = marksOf(day, more);
+            if ((known & KNOWN) == 0) {
+                known = KNOWN | (canStand(rules, trial, day, more, 0) ? FITS : 0);
+                mark(day, more, known);
+            }
+            return (known & FITS) != 0 && canChoose(day, lesson + 1, more, placed);
         }
 
         /** Lessons with lesser numbers are decided: those that must be ahead or beside are there, or too late. */
@@ -1130,17 +1141,8 @@ public final class Schoolhours {
             return isLast || ((rules.behind[lesson] | rules.oneDay[lesson]) & set) != 0;
         }
 
-        private boolean fits(int day, int set) {
-            int known = marksOf(day, set);
-            if ((known & KNOWN) == 0) {
-                known = KNOWN | (canStand(day, set, 0) ? FITS : 0);
-                mark(day, set, known);
-            }
-            return (known & FITS) != 0;
-        }
-
         /** Whether the lessons of a set, from one number on, find hours of a day beside those ahead of them. */
-        private boolean canStand(int day, int set, int from) {
+        private static boolean canStand(Rules rules, int[] slots, int day, int set, int from) {
             int lesson = from;
             while (lesson < rules.total && (set >> lesson & 1) == 0) {
                 lesson++;
@@ -1148,11 +1150,11 @@ public final class Schoolhours {
             if (lesson >= rules.total) {
                 return true;
             }
-            int free = rules.allowed(lesson, trial, set & (1 << lesson) - 1);
+            int free = rules.allowed(lesson, slots, set & (1 << lesson) - 1);
             for (int slot = day * HOURS; slot < (day + 1) * HOURS; slot++) {
                 if ((free >> slot & 1) != 0) {
-                    trial[lesson] = slot;
-                    if (canStand(day, set, lesson + 1)) {
+                    slots[lesson] = slot;
+                    if (canStand(rules, slots, day, set, lesson + 1)) {
                         return true;
                     }
                 }
@@ -1310,13 +1312,11 @@ public final class Schoolhours {
         /** Turns the way of two colours that begins at the teacher of a lesson with the first one. */
         private void turn(School school, int lesson, int p, int q) {
             int way = 0;
-            boolean isTeacher = true;
-            int who = school.ofLesson(lesson, School.TEACHER);
-            int next = withColour(school, isTeacher, who, p, lesson);
-            while (next != NONE && (way >> next & 1) == 0) {
+            int next = withColour(school, true, school.ofLesson(lesson, School.TEACHER), p, lesson);
+            for (int steps = 1; steps <= LESSONS && next != NONE; steps++) {
+                boolean isTeacher = steps % 2 == 0;
+                int who = school.ofLesson(next, isTeacher ? School.TEACHER : School.GROUP);
                 way |= 1 << next;
-                isTeacher = !isTeacher;
-                who = school.ofLesson(next, isTeacher ? School.TEACHER : School.GROUP);
                 next = withColour(school, isTeacher, who, isTeacher ? p : q, lesson);
             }
             for (int other = 0; other < lesson; other++) {
@@ -1363,13 +1363,11 @@ public final class Schoolhours {
             collect(school, slot);
             left = 0;
             spare = (1 << TEACHERS) - 1;
-            int open = needy;
-            int due = mostTaken(open, spare);
+            int due = mostTaken(able, needy, spare, 0);
             for (int lesson = 0; lesson < LESSONS; lesson++) {
                 takers[lesson] = NONE;
                 if ((needy >> lesson & 1) != 0) {
-                    open &= ~(1 << lesson);
-                    takers[lesson] = leastTaker(lesson, open, due);
+                    takers[lesson] = leastTaker(lesson, due);
                     if (takers[lesson] == NONE) {
                         left |= 1 << lesson;
                     } else {
@@ -1407,27 +1405,31 @@ public final class Schoolhours {
         }
 
         /** The least teacher with whom so many lessons as are due are still taken; NONE if it is best left. */
-        private int leastTaker(int lesson, int others, int due) {
+        private int leastTaker(int lesson, int due) {
             for (int teacher = 0; teacher < TEACHERS; teacher++) {
-                int bit = 1 << teacher;
-                if ((able[lesson] & spare & bit) != 0 && 1 + mostTaken(others, spare & ~bit) >= due) {
+                int others = spare & ~(1 << teacher);
+                boolean isAble = (able[lesson] & spare & ~others) != 0;
+                if (isAble && 1 + mostTaken(able, needy, others, lesson + 1) >= due) {
                     return teacher;
                 }
             }
             return NONE;
         }
 
-        /** The most lessons of a set that teachers of a set can take; each call has one lesson less. */
-        private int mostTaken(int lessons, int teachers) {
-            if (lessons == 0) {
+        /** The most lessons of a set that teachers of a set can take; the calls go by the lessons' numbers. */
+        private static int mostTaken(int[] able, int lessons, int teachers, int from) {
+            int lesson = from;
+            while (lesson < LESSONS && (lessons >> lesson & 1) == 0) {
+                lesson++;
+            }
+            if (lesson >= LESSONS) {
                 return 0;
             }
-            int bit = lessons & -lessons;
-            int lesson = Integer.bitCount(bit - 1);
-            int greatest = mostTaken(lessons & ~bit, teachers);
+            int greatest = mostTaken(able, lessons, teachers, lesson + 1);
             for (int teacher = 0; teacher < TEACHERS; teacher++) {
-                if ((able[lesson] & teachers & 1 << teacher) != 0) {
-                    greatest = Math.max(greatest, 1 + mostTaken(lessons & ~bit, teachers & ~(1 << teacher)));
+                int bit = 1 << teacher;
+                if ((able[lesson] & teachers & bit) != 0) {
+                    greatest = Math.max(greatest, 1 + mostTaken(able, lessons, teachers & ~bit, lesson + 1));
                 }
             }
             return greatest;
@@ -1454,25 +1456,23 @@ public final class Schoolhours {
         /** Puts the plan into the row for it; answers the days needed. */
         int plan(School school) {
             int days = 1;
-            while (days < EXAMS && !canHold(school, 0, 0, days)) {
+            // eight days are always enough, so the loop ends with a plan
+            while (!canHold(school, dayOf, 0, 0, days) && days < EXAMS) {
                 days++;
-            }
-            if (days == EXAMS) {
-                canHold(school, 0, 0, days);
             }
             return days;
         }
 
-        /** Whether the exams from one on find days, if those ahead of it have days below a bound. */
-        private boolean canHold(School school, int exam, int begun, int days) {
+        /** Whether the exams from one on find days, if those ahead of it have begun so many days. */
+        private static boolean canHold(School school, int[] dayOf, int exam, int begun, int days) {
             if (exam >= EXAMS) {
                 return true;
             }
             // a day that is not begun is as good as the least one of these, so only this one is tried
             for (int day = 0; day < days && day <= begun; day++) {
-                if (isFree(school, exam, day)) {
+                if (isFree(school, dayOf, exam, day)) {
                     dayOf[exam] = day;
-                    if (canHold(school, exam + 1, Math.max(begun, day + 1), days)) {
+                    if (canHold(school, dayOf, exam + 1, Math.max(begun, day + 1), days)) {
                         return true;
                     }
                 }
@@ -1480,7 +1480,7 @@ public final class Schoolhours {
             return false;
         }
 
-        private boolean isFree(School school, int exam, int day) {
+        private static boolean isFree(School school, int[] dayOf, int exam, int day) {
             for (int other = 0; other < exam; other++) {
                 if (dayOf[other] == day && (school.apartFrom(exam) >> other & 1) != 0) {
                     return false;
@@ -1513,7 +1513,7 @@ public final class Schoolhours {
             int days = plan(school);
             boolean isWrong = Integer.bitCount(greatestGroup(school)) > days;
             for (int exam = 0; exam < EXAMS; exam++) {
-                isWrong |= !isFree(school, exam, dayOf[exam]);
+                isWrong |= !isFree(school, dayOf, exam, dayOf[exam]);
             }
             return isWrong ? 1 : 0;
         }
