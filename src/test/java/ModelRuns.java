@@ -54,7 +54,7 @@ public final class ModelRuns {
         System.out.println(asked + " answers in " + runs + " runs, " + wrong + " wrong; " + found + " tables, "
             + proofs + " proofs, " + gains + " gains, " + lefts + " without substitute, " + rejected
             + " exceptions, " + abandoned + " runs left because the plain search was too long");
-        boolean isThin = found < runs || proofs < runs || gains < runs || lefts < runs / 3 || abandoned > runs / 10;
+        boolean isThin = found < runs || proofs < runs || gains < runs / 2 || lefts < runs / 3 || abandoned > runs / 10;
         System.exit(wrong == 0 && !isThin ? 0 : 1);
     }
 
@@ -137,7 +137,7 @@ public final class ModelRuns {
             int b = near(below(3) == 0 ? 0 : 1, 4);
             same(run, told, "setRooms " + a + " " + b, () -> x.setRooms(a, b), () -> m.setRooms(a, b));
         } else if (pick < 20) {
-            int sort = near(0, 7);
+            int sort = style == 2 && below(3) > 0 ? 4 + below(3) : near(0, 7);
             int a = sort == 0 ? near(0, 6) : sort == 1 ? near(0, 4) : near(0, lessons);
             int b = sort <= 1 || sort == 3 ? near(0, 20) : sort == 2 ? near(0, 5) : near(0, lessons);
             int weight = below(style == 3 ? 2 : 4) == 0 ? near(1, 10) : 0;

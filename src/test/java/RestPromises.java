@@ -162,6 +162,41 @@ public final class RestPromises {
         x.setIll(5, 0, false);
         x.setIll(5, 1, true);
         is(5, () -> x.substitute(1, 0));
+        mostGoAhead();
+    }
+
+    /** Plans with the most lessons, though a lesser teacher is free for a lesser lesson. */
+    private static void mostGoAhead() {
+        // nobody can take lesson 0; lesson 1 leaves teacher 0 to lesson 2
+        Schoolhours x = school(row(0, 3, 5, NONE, 0), row(1, 4, 0, NONE, 0), row(2, 5, 1, NONE, 0));
+        x.setSubjects(0, 0b000011);
+        x.setSubjects(1, 0b000001);
+        x.setSubjects(2, 0);
+        x.find();
+        for (int teacher = 3; teacher < 6; teacher++) {
+            x.setIll(teacher, 0, true);
+        }
+        is("-1 1 0", () -> substitutes(x));
+        is(1, () -> x.ill(0, true));
+        x.setIll(1, 0, true);
+        is("-1 0 -1", () -> substitutes(x));
+        // a way over three teachers
+        Schoolhours y = school(row(0, 3, 0, NONE, 0), row(1, 4, 1, NONE, 0), row(2, 5, 2, NONE, 0));
+        y.setSubjects(0, 0b000111);
+        y.setSubjects(1, 0b000011);
+        y.setSubjects(2, 0b000001);
+        y.find();
+        for (int teacher = 3; teacher < 6; teacher++) {
+            y.setIll(teacher, 0, true);
+        }
+        is("2 1 0", () -> substitutes(y));
+        y.setSubjects(2, 0);
+        y.find();
+        is("0 1 -1", () -> substitutes(y));
+    }
+
+    private static String substitutes(Schoolhours x) {
+        return x.substitute(0, 0) + " " + x.substitute(1, 0) + " " + x.substitute(2, 0);
     }
 
     private static void takes() {
@@ -600,6 +635,19 @@ public final class RestPromises {
         is(0, x::read);
         is(3, () -> x.slotOf(0));
         is(4, () -> x.append(-1, 0, 0, 0, 0));
+        // the bytes of each parameter count
+        for (int place = 0; place < 5; place++) {
+            Schoolhours y = new Schoolhours();
+            for (int i = 0; i < 24; i++) {
+                y.append(-1, 0, 0, 0, 0);
+            }
+            int[] p = new int[5];
+            p[place] = -1;
+            y.append(0x010101, 0, 0, 0, 0);
+            is(ISE, () -> y.append(p[0], p[1], p[2], p[3], p[4]));
+            is(ISE, () -> y.append(0x0100 & p[0] | 1, 0x0100 & p[1], 0x0100 & p[2], 0x0100 & p[3], 0x0100 & p[4] | 1));
+            is(99, () -> y.append(0, 0, 0, 0, 0));
+        }
         x.clearTape();
         for (int i = 1; i <= 4; i++) {
             int due = 20 * i;

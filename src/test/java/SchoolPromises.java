@@ -260,6 +260,21 @@ public final class SchoolPromises {
         is(1, () -> x.setRooms(1, 0));
         is(false, x::find);
         is(0, x::proof);
+        // four lessons of a kind with three rooms, and double ones among them
+        Schoolhours y = school(row(0, 0, 0, 1, 0), row(1, 1, 1, 1, 1), row(2, 2, 2, 1, 1), row(3, 3, 3, 1, 0));
+        y.find();
+        is("0 0 0 1", () -> table(y));
+        y.setRooms(0, 0);
+        y.setRooms(2, 0);
+        y.find();
+        is("0 0 0 1", () -> table(y));
+        y.setRooms(1, 2);
+        y.find();
+        is("0 0 1 2", () -> table(y));
+        y.dropLesson(0);
+        y.lesson(0, 0, 0, 1, false);
+        y.find();
+        is("0 0 2 2", () -> table(y));
     }
 
     private static void wish() {
@@ -410,6 +425,28 @@ public final class SchoolPromises {
         is(3, w::undo);
         is(true, w::find);
         is("7", () -> table(w));
+        // several lessons ahead of one, and several behind one
+        Schoolhours u = school(row(0, 0, 0, NONE, 0), row(1, 1, 1, NONE, 0), row(2, 2, 2, NONE, 0),
+            row(3, 3, 3, NONE, 0));
+        u.wish(6, 0, 2, 0);
+        u.wish(6, 1, 2, 0);
+        u.wish(3, 0, 3, 0);
+        u.find();
+        is("3 0 4 0", () -> table(u));
+        u.wish(6, 3, 2, 0);
+        u.wish(3, 3, 9, 0);
+        u.find();
+        is("3 0 10 9", () -> table(u));
+        u.wish(6, 2, 1, 0);
+        is(false, u::find);
+        is("1 5", () -> proofOf(u));
+        u.dropWish(1);
+        u.wish(6, 2, 0, 0);
+        is(false, u::find);
+        u.dropWish(1);
+        u.dropWish(0);
+        u.find();
+        is("11 11 10 9", () -> table(u));
         // rooms in the second hour of a double lesson
         Schoolhours v = school(row(0, 0, 0, 0, 1), row(1, 1, 1, 0, 0), row(2, 2, 2, 0, 1));
         v.setRooms(0, 1);
