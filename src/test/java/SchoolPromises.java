@@ -264,6 +264,11 @@ public final class SchoolPromises {
         Schoolhours y = school(row(0, 0, 0, 1, 0), row(1, 1, 1, 1, 1), row(2, 2, 2, 1, 1), row(3, 3, 3, 1, 0));
         y.find();
         is("0 0 0 1", () -> table(y));
+        // a full slot stays full, whatever comes at another one
+        Schoolhours z = school(row(0, 0, 0, 1, 0), row(1, 1, 1, 1, 0), row(2, 2, 2, 1, 0), row(0, 3, 3, 1, 0),
+            row(3, 4, 4, 1, 0));
+        z.find();
+        is("0 0 0 1 1", () -> table(z));
         y.setRooms(0, 0);
         y.setRooms(2, 0);
         y.find();
