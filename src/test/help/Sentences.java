@@ -142,12 +142,17 @@ final class Sentences {
 
     /** The call throws, and behind it a school is as one that was never asked. */
     static void refused(Class<?> due, Supplier<Schoolhours> made, Call call) {
+        leaves(due, made, call);
+    }
+
+    /** The call is answered (by what is thrown, too), and behind it a school is as one that was never asked. */
+    static void leaves(Object due, Supplier<Schoolhours> made, Call call) {
         String[] untouched = UNTOUCHED.computeIfAbsent(made, Sentences::looks);
         for (int look = 0; look < Seen.LOOKS; look++) {
             Schoolhours x = made.get();
             is(due, () -> call.on(x));
             if (!untouched[look].equals(Seen.look(look, x))) {
-                fail("a refused call changed what look " + look + " sees");
+                fail("the call changed what look " + look + " sees");
             }
         }
     }
@@ -209,5 +214,17 @@ final class Sentences {
     /** Schools without a table refuse a question about it. */
     static void noTable(Call call) {
         refused(ISE, WITHOUT_TABLE, call);
+    }
+
+    /** The sentence on a question about the present table: schools refuse it until they have one. */
+    static void asksTable(List<Supplier<Schoolhours>> without, Call call) {
+        sentence("Throws `IllegalStateException` if there is no present table", () -> {
+            refused(ISE, without, call);
+            Schoolhours x = Schools.some();
+            x.setRooms(0, 3);
+            is(ISE, () -> call.on(x));
+            x.undo();
+            is(true, () -> call.on(x) != null);
+        });
     }
 }

@@ -13,7 +13,6 @@ public final class SchoolSentences {
     private static final String NO_WISH = "Throws `IndexOutOfBoundsException` if there is no such wish";
     private static final String NO_WHAT = "Throws `IllegalArgumentException` if what is out of range";
     private static final String NO_SLOT = "Throws `IllegalArgumentException` if slot is out of range";
-    private static final String NO_TABLE = "Throws `IllegalStateException` if there is no present table";
     private static final String A_LESSON = "- `lesson`: number of a lesson";
     private static final String A_WISH = "- `wish`: number of a wish";
     private static final String HOW_MANY = "Returns how many there are.";
@@ -56,16 +55,8 @@ public final class SchoolSentences {
         Sentences.is(due, call);
     }
 
-    /** A question about the present table is asked of schools that have none. */
     private static void noTable(Sentences.Call call) {
-        sentence(NO_TABLE, () -> {
-            Sentences.noTable(call);
-            Schoolhours x = Schools.some();
-            x.setRooms(0, 3);
-            is(ISE, () -> call.on(x));
-            x.undo();
-            is(true, () -> call.on(x) != ISE);
-        });
+        Sentences.asksTable(Sentences.WITHOUT_TABLE, call);
     }
 
     // ---- The school.
@@ -745,14 +736,7 @@ public final class SchoolSentences {
 
     /** A question about the present table that asks for a lesson; a school without a table has three. */
     private static void tableOfLessons(Sentences.Call call) {
-        sentence(NO_TABLE, () -> {
-            Sentences.refused(ISE, Schools::stuck, call);
-            Schoolhours x = Schools.some();
-            x.setRooms(0, 3);
-            is(ISE, () -> call.on(x));
-            x.undo();
-            is(true, () -> call.on(x) != ISE);
-        });
+        Sentences.asksTable(List.of(Schools::stuck), call);
     }
 
     private static void lessonAt() {
