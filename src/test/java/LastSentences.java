@@ -587,6 +587,17 @@ public final class LastSentences {
         Schools.put(x, 0, 2);
         is(0, x::errors);
         is("0 2", () -> Schools.slots(x));
+        Schoolhours nine = withTable(DOUBLES);
+        is(0, nine::errors);
+        nine.move(8, 18);
+        is(0, nine::errors);
+        // of a wish that went nothing is left
+        Schoolhours y = Schools.wish(Schools.school(TWO), 3, 0, 5, 0);
+        Schools.put(y, 5, 5);
+        y.dropWish(0);
+        y.find();
+        is("0 0", () -> Schools.slots(y));
+        is(0, y::errors);
         // without a right table there is nothing to hold
         Schools.wish(x, 6, 1, 0, 0);
         is(false, x::find);
@@ -622,6 +633,17 @@ public final class LastSentences {
     }
 
     private static void substitutesHeld() {
+        // nobody can take lesson 0, but many could take lesson 1, who has a substitute
+        Schoolhours left = new Schoolhours();
+        for (int teacher = 0; teacher < 6; teacher++) {
+            left.setSubjects(teacher, teacher == 3 ? 63 : 62);
+        }
+        Schools.add(left, "030- 141-");
+        left.find();
+        left.setIll(3, 0, true);
+        left.setIll(4, 0, true);
+        is("-1 0", () -> Schools.substitutes(left, 0));
+        is(0, left::errors);
         Schoolhours x = Schools.school("030- 141- 252-");
         for (int sets = 0; sets < 1 << 6; sets++) {
             for (int teacher = 0; teacher < 3; teacher++) {

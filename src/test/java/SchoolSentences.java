@@ -1,5 +1,6 @@
 import java.util.List;
 import java.util.concurrent.Callable;
+import java.util.function.Supplier;
 
 /** The promises 1 to 25 of the document, sentence by sentence: the school, tables, gaps and moves, colours. */
 public final class SchoolSentences {
@@ -98,6 +99,8 @@ public final class SchoolSentences {
             is("321- 1230/2", () -> Schools.lessons(x));
             is(1, x::undo);
             is("321-", () -> Schools.lessons(x));
+            leavesTheRest(Schools::some, y -> y.lesson(3, 5, 5, 2, true));
+            leavesTheRest(Schools::stuck, y -> y.lesson(3, 5, 5, NONE, false));
         });
         sentence("- `group`: 0 to 3, a class", () -> {
             within(0, 3, 0, (x, group) -> x.lesson(group, 0, 0, 0, false));
@@ -179,6 +182,11 @@ public final class SchoolSentences {
             is("000- 222-", () -> Schools.lessons(x));
             is(3, x::undo);
             is("000- 111- 222-", () -> Schools.lessons(x));
+            // no wish names lesson 3, so twelve are left
+            leavesTheRest(Schools::full, y -> y.dropLesson(3));
+            leavesTheRest(Schools::full, y -> y.dropLesson(8));
+            leavesTheRest(Schools::some, y -> y.dropLesson(0));
+            leavesTheRest(Schools::stuck, y -> y.dropLesson(1));
         });
         sentence(A_LESSON, () -> {
             for (int i = 0; i < 9; i++) {
@@ -199,7 +207,23 @@ public final class SchoolSentences {
             Schoolhours x = Schools.school("000-");
             x.dropLesson(0);
             is(IOOBE, () -> x.dropLesson(0));
+            // of a wish that went ahead nothing is left
+            Schoolhours y = Schools.wish(Schools.school("000- 111-"), 3, 0, 1, 0, 3, 1, 2, 0);
+            y.dropWish(1);
+            is(1, () -> y.dropLesson(1));
+            is("3 0 1 0", () -> Schools.wishes(y));
         });
+    }
+
+    /** Behind a change of lessons or wishes all else is as it was told; the table goes. */
+    private static void leavesTheRest(Supplier<Schoolhours> made, Sentences.Call call) {
+        Schoolhours x = made.get();
+        is(true, () -> call.on(x) != null);
+        x.clearTape();
+        Schoolhours same = made.get();
+        same.setRooms(2, 3);
+        same.clearTape();
+        is(Seen.look(3, same), () -> Seen.look(3, x));
     }
 
     private static void lessonOf() {
@@ -379,6 +403,8 @@ public final class SchoolSentences {
             is("5 1 0 4, 0 5 19 0", () -> Schools.wishes(x));
             is(3, x::undo);
             is("5 1 0 4", () -> Schools.wishes(x));
+            leavesTheRest(Schools::some, y -> y.wish(6, 4, 3, 0));
+            leavesTheRest(Schools::stuck, y -> y.wish(0, 5, 19, 9));
         });
         sentence("- `sort`: 0 to 6", () -> {
             for (int i = 0; i <= 6; i++) {
@@ -494,6 +520,10 @@ public final class SchoolSentences {
             is("3 0 1 0, 3 0 3 0", () -> Schools.wishes(x));
             x.dropWish(1);
             is("1", () -> Schools.firstTable(x));
+            for (int i = 0; i < 12; i++) {
+                int wish = i;
+                leavesTheRest(Schools::full, y -> y.dropWish(wish));
+            }
         });
         sentence(A_WISH, () -> {
             for (int i = 0; i < 12; i++) {
@@ -605,6 +635,15 @@ public final class SchoolSentences {
                 is(ISE, x::cost);
                 is(4, x::undo);
                 is("19 19", () -> Schools.slots(x));
+                // of lessons that went nothing is left
+                Schoolhours y = Schools.school("0000 0010 0020");
+                y.setRooms(0, 1);
+                y.setRooms(1, 2);
+                is("0 1 2", () -> Schools.firstTable(y));
+                y.dropLesson(2);
+                y.dropLesson(1);
+                Schools.add(y, "1111 2221");
+                is("0 0 0", () -> Schools.firstTable(y));
             });
         sentence("Returns whether there is a right table.", () -> {
             is(true, () -> new Schoolhours().find());
@@ -844,6 +883,13 @@ public final class SchoolSentences {
                         is(due, () -> x.choices(lesson));
                     }
                 }
+                movesAreTables("000- 111- 222- 333-", new int[] {2, 3, 6, 8}, 6, 0, 2, 6, 1, 2, 6, 2, 3, 6, 0, 3);
+                movesAreTables("000- 111- 222- 333-", new int[] {2, 3, 1, 0}, 4, 0, 3, 4, 3, 1, 4, 2, 3);
+                movesAreTables("000- 111- 222- 333-", new int[] {2, 4, 8, 12}, 5, 0, 3, 5, 3, 1, 5, 2, 3, 5, 1, 0);
+                movesAreTables("000- 111- 222- 333-", new int[] {2, 4, 4, 12}, 2, 3, 0, 0, 1, 3, 1, 2, 0, 3, 0, 2);
+                movesAreTables("0000 1110/2 2220/2 3330 0440/2 1550 2000 3110/2 0220", new int[] {0, 0, 1, 4, 5, 5, 9, 12,
+                    16});
+                movesAreTables("0000/2 0000/2 0000/2 0110 1220 1300 1310/2", new int[] {0, 4, 8, 3, 1, 4, 9});
             });
         sentence(A_LESSON, () -> {
             Schoolhours x = Schools.school("000- 010-/2");
@@ -860,6 +906,36 @@ public final class SchoolSentences {
         });
         sentence(NO_LESSON, () -> Sentences.noLesson((x, lesson) -> x.choices(lesson)));
         tableOfLessons(x -> x.choices(2));
+    }
+
+    /** The slots to which a lesson can be moved are those with which the table can be read; hard wishes by threes. */
+    private static void movesAreTables(String lessons, int[] slots, int... wishes) {
+        Supplier<Schoolhours> made = () -> {
+            Schoolhours x = Schools.school(lessons);
+            for (int at = 0; at < wishes.length; at += 3) {
+                x.wish(wishes[at], wishes[at + 1], wishes[at + 2], 0);
+            }
+            return x;
+        };
+        for (int i = 0; i < slots.length; i++) {
+            int lesson = i;
+            Schoolhours reader = made.get();
+            int choices = 0;
+            for (int j = 0; j < 20; j++) {
+                int slot = j;
+                int[] other = slots.clone();
+                other[lesson] = slot;
+                boolean isRight = Schools.isRight(reader, other);
+                choices += isRight && slot != slots[lesson] ? 1 : 0;
+                Schoolhours x = made.get();
+                Schools.put(x, slots);
+                is(isRight ? "moved" : ISE, () -> x.move(lesson, slot) >= 0 ? "moved" : "");
+            }
+            int due = choices;
+            Schoolhours x = made.get();
+            Schools.put(x, slots);
+            is(due, () -> x.choices(lesson));
+        }
     }
 
     /** How many other slots a lesson can be moved to, asked by moving it; it is undone each time. */
@@ -1088,6 +1164,20 @@ public final class SchoolSentences {
             is("2 3", () -> Schools.slots(x));
             is(3, x::undo);
             is("0 3", () -> Schools.slots(x));
+            // of the first table, too, and of one that undo brings back
+            Schoolhours y = Schools.wish(Schools.school("000- 011-"), 3, 1, 2, 5);
+            is("0 1", () -> Schools.firstTable(y));
+            is(4, y::improve);
+            is("0 2", () -> Schools.slots(y));
+            Schools.wish(y, 3, 0, 0, 0, 3, 1, 1, 0);
+            y.find();
+            is(0, y::improve);
+            y.undo();
+            y.undo();
+            y.undo();
+            is("0 2", () -> Schools.slots(y));
+            is(1, y::improve);
+            is("1 2", () -> Schools.slots(y));
         });
         sentence("Returns by how much it became less; 0, and no change, if there is no such move.", () -> {
             Schoolhours x = Schools.wish(Schools.school("000- 111-"), 3, 0, 9, 9, 3, 1, 9, 1);
@@ -1143,6 +1233,13 @@ public final class SchoolSentences {
             is("0 1 0", () -> Schools.colours(x));
             x.undo();
             is("0 1 0 1", () -> Schools.colours(x));
+            // a way is turned, and not any more without its last lesson
+            Schoolhours y = Schools.school("000- 010- 120- 110-");
+            is("1 0 0 1", () -> Schools.colours(y));
+            y.dropLesson(3);
+            is("0 1 0", () -> Schools.colours(y));
+            y.undo();
+            is("1 0 0 1", () -> Schools.colours(y));
         });
         sentence(NO_LESSON, () -> Sentences.noLesson((x, lesson) -> x.colour(lesson)));
     }

@@ -157,8 +157,17 @@ public final class TermSentences {
                 }
             });
         sentence("When a lesson goes, those behind it get a number that is less by 1; wishes that name it go.", () -> {
+            int[][] wishes = {{0, 4, 8, 1}, {1, 3, 4, 2}, {2, 0, 4, 3}, {2, 8, 0, 4}, {3, 4, 8, 5}, {3, 8, 0, 0},
+                {4, 0, 8, 7}, {4, 4, 5, 8}, {5, 5, 4, 9}, {5, 8, 7, 0}, {6, 1, 2, 1}, {6, 3, 0, 0}};
             for (int dropped = 0; dropped < 9; dropped++) {
-                lessonGoes(dropped);
+                lessonGoes(dropped, wishes);
+            }
+            int[][] backwards = new int[12][];
+            for (int i = 0; i < 12; i++) {
+                backwards[i] = wishes[11 - i];
+            }
+            for (int dropped = 0; dropped < 9; dropped++) {
+                lessonGoes(dropped, backwards);
             }
         });
     }
@@ -184,9 +193,7 @@ public final class TermSentences {
         is(0, () -> Schools.put(x, begin));
     }
 
-    private static void lessonGoes(int dropped) {
-        int[][] told = {{0, 4, 8, 1}, {1, 3, 4, 2}, {2, 0, 4, 3}, {2, 8, 0, 4}, {3, 4, 8, 5}, {3, 8, 0, 0}, {4, 0, 8, 7},
-            {4, 4, 5, 8}, {5, 5, 4, 9}, {5, 8, 7, 0}, {6, 1, 2, 1}, {6, 3, 0, 0}};
+    private static void lessonGoes(int dropped, int[][] told) {
         Schoolhours x = Schools.school(NINE);
         List<String> due = new ArrayList<>();
         for (int[] w : told) {
@@ -455,7 +462,41 @@ public final class TermSentences {
                 is(0, x::cost);
                 is(0, () -> Schools.put(new Schoolhours(), ""));
                 is("15 16 17 18 19", () -> Schools.firstTable(last()));
+                lateFirstTables();
             });
+    }
+
+    /** Schools in which the table that comes to mind, all lessons as early as can be day by day, is not the first. */
+    private static void lateFirstTables() {
+        // Monday could take both, but then lesson 0 would stand behind lesson 1
+        first(() -> Schools.wish(Schools.school("000- 011-"), 0, 1, 1, 0, 0, 1, 2, 0, 0, 1, 3, 0));
+        firstIs("0 4 1 2", "000- 011- 022- 033-", 0, 1, 1, 0, 1, 2, 0, 1, 3, 0, 2, 0, 0, 2, 2, 0, 2, 3, 0, 3, 0, 0, 3, 1,
+            0, 3, 3);
+        // lesson 0 on one of the first days leaves no day to the lessons 3 and 4
+        firstIs("8 0 4 0 4", "000- 111- 122- 030- 040-", 2, 3, 2, 2, 3, 3, 2, 3, 4, 2, 4, 2, 2, 4, 3, 2, 4, 4, 1, 1, 1, 1,
+            1, 2, 1, 1, 3);
+        firstIs("4 0 4 0 8", "000- 111- 122- 030- 040-", 2, 3, 1, 2, 3, 3, 2, 3, 4, 2, 4, 1, 2, 4, 3, 2, 4, 4, 1, 1, 1, 1,
+            1, 2, 1, 1, 3);
+        first(() -> Schools.wish(Schools.school("300-/2 210- 200-/2"), 2, 0, 0, 0, 2, 2, 1, 0, 2, 0, 1, 0, 6, 2, 0, 0));
+        first(() -> Schools.wish(Schools.school("220-/2 150- 150-"), 2, 2, 1, 0, 5, 1, 0, 0, 6, 1, 0, 0, 6, 2, 0, 0));
+        firstIs("5 12 0 8 2", "204-/2 204-/2 103-/2 001-/2 102-/2", 4, 2, 4, 6, 4, 3, 0, 0, 4, 2, 1, 2, 5, 3, 4, 2, 0, 3,
+            6, 4, 0);
+        // six lessons of a class in one subject find no six days
+        firstIs("none", "010- 000- 020- 010- 010-/2 010-", 2, 4, 2, 2, 4, 1);
+        firstIs("0 4 8 12 16", "010- 000- 020- 010- 010-/2");
+        // two must be ahead of a third one, two behind it
+        firstIs("2 0 1", "000- 011- 022-", 6, 1, 0, 6, 2, 0);
+        firstIs("0 1 2", "000- 011- 022-", 6, 0, 1, 6, 0, 2);
+        firstIs("4 0 0 1", "000- 111- 022- 133-", 6, 1, 0, 6, 3, 0, 5, 0, 1, 5, 0, 3);
+    }
+
+    /** The first table with hard wishes told by threes, without their weights. */
+    private static void firstIs(String due, String lessons, int... wishes) {
+        Schoolhours x = Schools.school(lessons);
+        for (int at = 0; at < wishes.length; at += 3) {
+            x.wish(wishes[at], wishes[at + 1], wishes[at + 2], 0);
+        }
+        is(due, () -> Schools.firstTable(x));
     }
 
     /** Five lessons of one class that stand in their order, the first of them not ahead of slot 15. */
@@ -692,6 +733,7 @@ public final class TermSentences {
                 improved("000- 011-", "0 3", 2, "2 3");
                 // the day of the other is full, so only an exchange helps
                 improved(FOUR, "0 1 2 3", 5, "1 0 2 3", wishesOfFour(3, 0, 1, 5));
+                improved(FOUR, "0 1 2 3", 1, "1 0 2 3", wishesOfFour(3, 0, 1, 1));
                 // nearer slots are not right: a teacher, a subject, a room, a hard wish
                 improved("000- 011- 112-", "0 3 1", 3, "0 4 1", 3, 0, 0, 0, 3, 2, 1, 0);
                 improved("000- 010-", "0 8", 5, "0 4", 3, 1, 1, 5, 3, 1, 4, 5, 3, 0, 0, 9, 3, 1, 0, 9);
@@ -781,11 +823,13 @@ public final class TermSentences {
             + " way of p and q that begins at the teacher is turned: from the teacher on by its lesson with the colour p,"
             + " from the class of this by that one's lesson with q, and so on by turns, as far as it goes; all lessons on"
             + " the way get the other one of both colours; then the lesson gets p.", () -> {
-                // ways of one lesson, two, three and four lessons
+                // ways of one lesson, two, three, four, five and six lessons; no way is longer
                 coloured("120- 220- 020- 310- 310- 010-", "0 1 2 2 1 0");
                 coloured("000- 010- 120- 110-", "1 0 0 1");
                 coloured("050- 120- 220- 110- 010-", "0 1 0 0 1");
                 coloured("050- 230- 120- 220- 110- 010-", "0 1 1 0 0 1");
+                coloured("110- 310- 040- 200- 340- 130- 230-", "1 0 0 0 1 0 1");
+                coloured("110- 310- 130- 040- 320- 030- 250- 220-", "0 1 1 1 0 0 0 1");
             });
         sentence("(Double lessons count like others here; subjects, rooms, wishes and slots do not matter.)", () -> {
             String due = "0 1 1 0 0 1";
