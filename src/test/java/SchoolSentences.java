@@ -889,6 +889,9 @@ public final class SchoolSentences {
                 movesAreTables("000- 111- 222- 333-", new int[] {2, 4, 4, 12}, 2, 3, 0, 0, 1, 3, 1, 2, 0, 3, 0, 2);
                 movesAreTables("0000 1110/2 2220/2 3330 0440/2 1550 2000 3110/2 0220", new int[] {0, 0, 1, 4, 5, 5, 9, 12,
                     16});
+                // three rooms that are full, and a lesson at another slot between those that fill them, or behind them
+                movesAreTables("0000 1110 0220 2330 3440", new int[] {5, 5, 9, 5, 12});
+                movesAreTables("0000 1110 2330 3440 0220", new int[] {5, 5, 5, 12, 9});
                 movesAreTables("0000/2 0000/2 0000/2 0110 1220 1300 1310/2", new int[] {0, 4, 8, 3, 1, 4, 9});
             });
         sentence(A_LESSON, () -> {
@@ -1014,6 +1017,9 @@ public final class SchoolSentences {
             wrongMoves("000- 010-", "0 4", 1, 0, 1, 2, 3);
             wrongMoves("0000 1110 2220 3330/2", "5 5 5 0", 3, 4, 5);
             wrongMoves("0000/2 1110/2 2220/2 3330", "4 4 4 0", 3, 4, 5);
+            // three lessons fill the rooms of a slot, told with one between them, or behind them
+            wrongMoves("0000 1110 0220 2330 3440", "5 5 9 5 12", 4, 5);
+            wrongMoves("0000 1110 2330 3440 0220", "5 5 5 12 9", 3, 5);
             Schoolhours x = Schools.wish(Schools.school("000- 111-"), 6, 0, 1, 0);
             Schools.put(x, 8, 9);
             is(ISE, () -> x.move(1, 8));

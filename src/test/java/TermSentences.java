@@ -466,6 +466,9 @@ public final class TermSentences {
             });
     }
 
+    private static final String NINE_OF_CLASS =
+        "000-/2 011-/2 022-/2 033-/2 044-/2 050-/2 001-/2 012-/2 023-/2";
+
     /** Schools in which the table that comes to mind, all lessons as early as can be day by day, is not the first. */
     private static void lateFirstTables() {
         // Monday could take both, but then lesson 0 would stand behind lesson 1
@@ -484,6 +487,12 @@ public final class TermSentences {
         // six lessons of a class in one subject find no six days
         firstIs("none", "010- 000- 020- 010- 010-/2 010-", 2, 4, 2, 2, 4, 1);
         firstIs("0 4 8 12 16", "010- 000- 020- 010- 010-/2");
+        // two lessons, one behind the other, leave their place on Monday to lesser ones
+        firstIs("0 0 4 4", "000- 111- 022- 133-", 0, 2, 1, 0, 2, 2, 0, 2, 3, 0, 3, 1, 0, 3, 2, 0, 3, 3);
+        firstIs("1 0 4 4", "000- 111- 022- 133-", 0, 2, 0, 0, 2, 2, 0, 2, 3, 1, 0, 0, 0, 3, 1, 0, 3, 2, 0, 3, 3);
+        // nine lessons of a class
+        firstIs("1 4 6 8 10 12 14 16 18", NINE_OF_CLASS, 0, 0, 0);
+        firstIs("2 0 4 6 8 10 12 14 16", NINE_OF_CLASS, 1, 0, 19, 0, 5, 0, 0, 0, 1);
         // two must be ahead of a third one, two behind it
         firstIs("2 0 1", "000- 011- 022-", 6, 1, 0, 6, 2, 0);
         firstIs("0 1 2", "000- 011- 022-", 6, 0, 1, 6, 0, 2);
