@@ -387,7 +387,8 @@ public final class LaterTermSentences {
             x.holiday(20260907, 20260907);
             x.holiday(20261224, 20270103);
             LocalDate date = LocalDate.of(2026, 9, 8);
-            for (int i = 0; i < x.schoolDays(); i++) {
+            int total = x.schoolDays();
+            for (int i = 0; i < total; i++) {
                 int number = i;
                 int due = number(date);
                 is(due, () -> x.dateOf(number));
@@ -444,8 +445,8 @@ public final class LaterTermSentences {
             });
         sentence("Dates are told as numbers: 10000 times the year plus 100 times the month plus the day.", () -> {
             LocalDate date = LocalDate.of(2000, 1, 1);
-            Schoolhours x = new Schoolhours();
             for (int days = 0; days < 36525; days++) {
+                Schoolhours x = new Schoolhours();
                 int number = number(date);
                 int next = number(date.plusDays(1));
                 int due = date.getDayOfWeek().getValue() - 1;

@@ -18,6 +18,7 @@ public final class ModelRuns {
     private static long seed;
     private static int wrong;
     private static int asked;
+    private static int called;
     private static int found;
     private static int proofs;
     private static int gains;
@@ -62,7 +63,7 @@ public final class ModelRuns {
         Schoolhours x = new Schoolhours();
         Model m = new Model();
         StringBuilder told = new StringBuilder();
-        int before = asked;
+        called = 0;
         int style = below(4);
         for (int teacher = 0; teacher < 6 && style == 3; teacher++) {
             int t = teacher;
@@ -72,7 +73,7 @@ public final class ModelRuns {
             same(run, told, "setIll " + t + " 0 " + isIll, () -> x.setIll(t, 0, isIll), () -> m.setIll(t, 0, isIll));
         }
         try {
-            for (int call = 0; asked - before < CALLS && wrong < 20 && call < CALLS; call++) {
+            for (int call = 0; called < CALLS && wrong < 20 && call < CALLS; call++) {
                 oneCall(run, x, m, style, told);
             }
         } catch (TooLong e) {
@@ -85,6 +86,10 @@ public final class ModelRuns {
     }
 
     private static void same(int run, StringBuilder told, String call, Callable<Object> got, Callable<Object> due) {
+        if (called == CALLS) {
+            return;
+        }
+        called++;
         asked++;
         Object wanted = answer(due);
         Object given = answer(got);

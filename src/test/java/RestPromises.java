@@ -551,11 +551,14 @@ public final class RestPromises {
         for (LocalDate d = LocalDate.of(2000, 1, 1); d.isBefore(end); d = d.plusDays(1)) {
             int date = number(d);
             DayOfWeek due = d.getDayOfWeek();
-            is(due.getValue() - 1, () -> x.dayOfWeek(date));
+            is(due.getValue() - 1, () -> new Schoolhours().dayOfWeek(date));
         }
         int valid = 0;
+        Schoolhours asked = x;
         for (int date = 19990000; date < 21010000; date++) {
-            valid += isDate(x, date) ? 1 : 0;
+            // an object is good for 512 calls
+            asked = date % 500 == 0 ? new Schoolhours() : asked;
+            valid += isDate(asked, date) ? 1 : 0;
         }
         int due = valid;
         is(36525, () -> due);
@@ -589,9 +592,10 @@ public final class RestPromises {
         is(21020927, () -> x.later(20991231, 1000));
         for (int days = -1000; days <= 1000; days++) {
             int more = days;
-            is(number(LocalDate.of(2000, 1, 1).plusDays(days)), () -> x.later(20000101, more));
-            is(number(LocalDate.of(2099, 12, 31).plusDays(days)), () -> x.later(20991231, more));
-            is(number(LocalDate.of(2024, 2, 29).plusDays(days)), () -> x.later(20240229, more));
+            Schoolhours y = new Schoolhours();
+            is(number(LocalDate.of(2000, 1, 1).plusDays(days)), () -> y.later(20000101, more));
+            is(number(LocalDate.of(2099, 12, 31).plusDays(days)), () -> y.later(20991231, more));
+            is(number(LocalDate.of(2024, 2, 29).plusDays(days)), () -> y.later(20240229, more));
         }
     }
 
