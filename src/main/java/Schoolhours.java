@@ -1110,27 +1110,32 @@ public final class Schoolhours {
                     }
                 }
             }
+            if (canTakeMore(day, set, placed)) {
+                return false;
+            }
             chosen[day] = set;
             return canPlaceFrom(day + 1, placed | set);
         }
 
         private boolean canTakeIn(int day, int lesson, int set, int placed) {
-            if (!mayJoin(day, lesson, set, placed)) {
-                return false;
-            }
-            int more = set | 1 << lesson;
-            int known = marksOf(day, more);
-            if ((known & KNOWN) == 0) {
-                known = KNOWN | (canStand(rules, trial, day, more, 0) ? FITS : 0);
-                mark(day, more, known);
-            }
-            return (known & FITS) != 0 && canChoose(day, lesson + 1, more, placed);
+            return mayJoin(day, lesson, set, placed, (1 << lesson) - 1) && fitsBeside(day, lesson, set)
+                    && canChoose(day, lesson + 1, set | 1 << lesson, placed);
         }
 
-        /** Lessons with lesser numbers are decided: those that must be ahead or beside are there, or too late. */
-        private boolean mayJoin(int day, int lesson, int set, int placed) {
+        /** Whether another lesson can join a set: then this set is not tried, as a greater one leaves no more behind. */
+        private boolean canTakeMore(int day, int set, int placed) {
+            for (int lesson = 0; lesson < rules.total; lesson++) {
+                boolean isOut = ((placed | set) >> lesson & 1) == 0;
+                if (isOut && mayJoin(day, lesson, set, placed, ~0) && fitsBeside(day, lesson, set)) {
+                    return true;
+                }
+            }
+            return false;
+        }
+
+        /** Of the lessons that are decided, those that must be ahead or beside must be there, and none be too late. */
+        private boolean mayJoin(int day, int lesson, int set, int placed, int decided) {
             int needed = rules.ahead[lesson] | rules.oneDay[lesson];
-            int decided = (1 << lesson) - 1;
             return (rules.open[lesson] >> day * HOURS & Rules.WHOLE_DAY) != 0
                     && (rules.oneDay[lesson] & placed) == 0
                     && (needed & decided & ~(placed | set)) == 0;
@@ -1141,25 +1146,58 @@ public final class Schoolhours {
             return isLast || ((rules.behind[lesson] | rules.oneDay[lesson]) & set) != 0;
         }
 
-        /** Whether the lessons of a set, from one number on, find hours of a day beside those ahead of them. */
-        private static boolean canStand(Rules rules, int[] slots, int day, int set, int from) {
-            int lesson = from;
-            while (lesson < rules.total && (set >> lesson & 1) == 0) {
-                lesson++;
+        private boolean fitsBeside(int day, int lesson, int set) {
+            int bit = 1 << lesson;
+            for (int other = 0; other < rules.total; other++) {
+                // two that cannot stand together are seen at once, a set with them only after many tries
+                if ((set >> other & 1) != 0 && !fits(day, 1 << other | bit)) {
+                    return false;
+                }
             }
-            if (lesson >= rules.total) {
+            return fits(day, set | bit);
+        }
+
+        private boolean fits(int day, int set) {
+            int known = marksOf(day, set);
+            if ((known & KNOWN) == 0) {
+                known = KNOWN | (canStand(rules, trial, day, set, 0) ? FITS : 0);
+                mark(day, set, known);
+            }
+            return (known & FITS) != 0;
+        }
+
+        /** Whether the lessons of a set that have no hour yet find hours of a day beside those that have one. */
+        private static boolean canStand(Rules rules, int[] slots, int day, int set, int placed) {
+            int lesson = tightest(rules, slots, day, set & ~placed, placed);
+            if (lesson == NONE) {
                 return true;
             }
-            int free = rules.allowed(lesson, slots, set & (1 << lesson) - 1);
+            int free = rules.allowed(lesson, slots, placed);
             for (int slot = day * HOURS; slot < (day + 1) * HOURS; slot++) {
                 if ((free >> slot & 1) != 0) {
                     slots[lesson] = slot;
-                    if (canStand(rules, slots, day, set, lesson + 1)) {
+                    if (canStand(rules, slots, day, set, placed | 1 << lesson)) {
                         return true;
                     }
                 }
             }
             return false;
+        }
+
+        /** The lesson of a set with the fewest hours left: by it a dead end shows soonest; NONE of no lessons. */
+        private static int tightest(Rules rules, int[] slots, int day, int set, int placed) {
+            int found = NONE;
+            int fewest = HOURS + 1;
+            for (int lesson = 0; lesson < rules.total && fewest > 0; lesson++) {
+                if ((set >> lesson & 1) != 0) {
+                    int free = rules.allowed(lesson, slots, placed) >> day * HOURS & Rules.WHOLE_DAY;
+                    if (Integer.bitCount(free) < fewest) {
+                        found = lesson;
+                        fewest = Integer.bitCount(free);
+                    }
+                }
+            }
+            return found;
         }
 
         private int marksOf(int day, int set) {
