@@ -1073,7 +1073,7 @@ public final class Schoolhours {
             }
             // marks of earlier rounds bear other numbers, so they need not be wiped out
             round++;
-            if (!canPlaceFrom(0, 0)) {
+            if (!canChoose(0, 0, 0, 0)) {
                 return false;
             }
             for (int day = 0; day < DAYS; day++) {
@@ -1081,21 +1081,6 @@ public final class Schoolhours {
             }
             System.arraycopy(trial, 0, table, 0, LESSONS);
             return true;
-        }
-
-        /** Whether the lessons that are not placed can stand on this day and those behind it. */
-        private boolean canPlaceFrom(int day, int placed) {
-            if (day >= DAYS) {
-                return placed == (1 << rules.total) - 1;
-            }
-            if ((marksOf(day, placed) & DEAD) != 0) {
-                return false;
-            }
-            if (canChoose(day, 0, 0, placed)) {
-                return true;
-            }
-            mark(day, placed, DEAD);
-            return false;
         }
 
         /** Goes on with the lessons from one number on, those of a set being chosen for the day. */
@@ -1110,15 +1095,12 @@ public final class Schoolhours {
                     }
                 }
             }
-            if (canTakeMore(day, set, placed)) {
-                return false;
-            }
             chosen[day] = set;
-            return canPlaceFrom(day + 1, placed | set);
+            return !canTakeMore(day, set, placed) && canGoOn(day + 1, placed | set);
         }
 
         private boolean canTakeIn(int day, int lesson, int set, int placed) {
-            return mayJoin(day, lesson, set, placed, (1 << lesson) - 1) && fitsBeside(day, lesson, set)
+            return mayJoin(day, lesson, set, placed, (1 << lesson) - 1) && fits(day, lesson, set)
                     && canChoose(day, lesson + 1, set | 1 << lesson, placed);
         }
 
@@ -1126,10 +1108,25 @@ public final class Schoolhours {
         private boolean canTakeMore(int day, int set, int placed) {
             for (int lesson = 0; lesson < rules.total; lesson++) {
                 boolean isOut = ((placed | set) >> lesson & 1) == 0;
-                if (isOut && mayJoin(day, lesson, set, placed, ~0) && fitsBeside(day, lesson, set)) {
+                if (isOut && mayJoin(day, lesson, set, placed, ~0) && fits(day, lesson, set)) {
                     return true;
                 }
             }
+            return false;
+        }
+
+        /** Whether the lessons that are not placed can stand on this day and those behind it. */
+        private boolean canGoOn(int day, int placed) {
+            if (day >= DAYS) {
+                return placed == (1 << rules.total) - 1;
+            }
+            if ((marksOf(day, placed) & DEAD) != 0) {
+                return false;
+            }
+            if (canChoose(day, 0, 0, placed)) {
+                return true;
+            }
+            mark(day, placed, DEAD);
             return false;
         }
 
@@ -1146,58 +1143,49 @@ public final class Schoolhours {
             return isLast || ((rules.behind[lesson] | rules.oneDay[lesson]) & set) != 0;
         }
 
-        private boolean fitsBeside(int day, int lesson, int set) {
-            int bit = 1 << lesson;
-            for (int other = 0; other < rules.total; other++) {
-                // two that cannot stand together are seen at once, a set with them only after many tries
-                if ((set >> other & 1) != 0 && !fits(day, 1 << other | bit)) {
+        /** Whether a lesson can stand on a day beside each one of a set, and then beside all of them. */
+        private boolean fits(int day, int lesson, int set) {
+            int whole = set | 1 << lesson;
+            for (int other = 0; other <= rules.total; other++) {
+                // two that cannot stand together are seen at once, a greater set with them only after many tries
+                int tried = other < rules.total ? whole & (1 << other | 1 << lesson) : whole;
+                int known = marksOf(day, tried);
+                if ((known & KNOWN) == 0) {
+                    known = KNOWN | (canStand(rules, trial, day, tried, 0) ? FITS : 0);
+                    mark(day, tried, known);
+                }
+                if ((known & FITS) == 0) {
                     return false;
                 }
             }
-            return fits(day, set | bit);
-        }
-
-        private boolean fits(int day, int set) {
-            int known = marksOf(day, set);
-            if ((known & KNOWN) == 0) {
-                known = KNOWN | (canStand(rules, trial, day, set, 0) ? FITS : 0);
-                mark(day, set, known);
-            }
-            return (known & FITS) != 0;
+            return true;
         }
 
         /** Whether the lessons of a set that have no hour yet find hours of a day beside those that have one. */
         private static boolean canStand(Rules rules, int[] slots, int day, int set, int placed) {
-            int lesson = tightest(rules, slots, day, set & ~placed, placed);
-            if (lesson == NONE) {
-                return true;
+            int next = NONE;
+            int free = 0;
+            int fewest = HOURS + 1;
+            // the lesson with the fewest hours left is the next one, as a dead end shows soonest by it
+            for (int lesson = 0; lesson < rules.total && fewest > 0; lesson++) {
+                if (((set & ~placed) >> lesson & 1) != 0) {
+                    int hours = rules.allowed(lesson, slots, placed) >> day * HOURS & Rules.WHOLE_DAY;
+                    if (Integer.bitCount(hours) < fewest) {
+                        next = lesson;
+                        free = hours;
+                        fewest = Integer.bitCount(hours);
+                    }
+                }
             }
-            int free = rules.allowed(lesson, slots, placed);
-            for (int slot = day * HOURS; slot < (day + 1) * HOURS; slot++) {
-                if ((free >> slot & 1) != 0) {
-                    slots[lesson] = slot;
-                    if (canStand(rules, slots, day, set, placed | 1 << lesson)) {
+            for (int hour = 0; hour < HOURS && next != NONE; hour++) {
+                if ((free >> hour & 1) != 0) {
+                    slots[next] = day * HOURS + hour;
+                    if (canStand(rules, slots, day, set, placed | 1 << next)) {
                         return true;
                     }
                 }
             }
-            return false;
-        }
-
-        /** The lesson of a set with the fewest hours left: by it a dead end shows soonest; NONE of no lessons. */
-        private static int tightest(Rules rules, int[] slots, int day, int set, int placed) {
-            int found = NONE;
-            int fewest = HOURS + 1;
-            for (int lesson = 0; lesson < rules.total && fewest > 0; lesson++) {
-                if ((set >> lesson & 1) != 0) {
-                    int free = rules.allowed(lesson, slots, placed) >> day * HOURS & Rules.WHOLE_DAY;
-                    if (Integer.bitCount(free) < fewest) {
-                        found = lesson;
-                        fewest = Integer.bitCount(free);
-                    }
-                }
-            }
-            return found;
+            return next == NONE;
         }
 
         private int marksOf(int day, int set) {

@@ -10,7 +10,9 @@ import java.nio.file.Path;
 import java.util.ArrayList;
 import java.util.Arrays;
 import java.util.List;
+import java.util.Map;
 import java.util.Set;
+import java.util.TreeMap;
 import java.util.TreeSet;
 import java.util.regex.Matcher;
 import java.util.regex.Pattern;
@@ -26,6 +28,7 @@ public final class SourceRules {
         members();
         words(code);
         lengths(code);
+        depths(code);
         System.out.println("rules of the source: " + wrong + " broken");
         System.exit(wrong == 0 ? 0 : 1);
     }
@@ -157,6 +160,54 @@ public final class SourceRules {
             }
         }
         rule(begin < 0, "a method without an end");
+    }
+
+    /** Rule 11: calls go at most eight deep, each method being counted once (so that recursion does not count). */
+    private static void depths(String code) {
+        Map<String, Set<String>> calls = new TreeMap<>();
+        Pattern head = Pattern.compile("^(?: {4}| {8})(?!return |throw |else |new )(?:[\\w\\[\\]]+ )+(\\w+)\\(.*[^;]$");
+        Pattern call = Pattern.compile("(?<![\\w.])(?:(\\w+)\\.)?(\\w+)\\(");
+        String owner = "Schoolhours";
+        String method = "";
+        for (String line : code.split("\n")) {
+            Matcher inside = Pattern.compile("^    private static final class (\\w+) \\{").matcher(line);
+            Matcher begun = head.matcher(line);
+            if (inside.find()) {
+                owner = inside.group(1);
+            } else if (begun.matches()) {
+                method = owner + "." + begun.group(1);
+                calls.putIfAbsent(method, new TreeSet<>());
+            } else if (!method.isEmpty()) {
+                Matcher called = call.matcher(line);
+                while (called.find()) {
+                    String of = called.group(1) == null ? owner : capital(called.group(1));
+                    calls.get(method).add(of + "." + called.group(2));
+                }
+            }
+        }
+        int most = 0;
+        for (String begin : calls.keySet()) {
+            most = Math.max(most, depth(calls, begin, new TreeSet<>()));
+        }
+        rule(calls.size() > 150, "only " + calls.size() + " methods were seen");
+        rule(most <= 8, "calls go " + most + " deep");
+        rule(most >= 6, "calls were seen " + most + " deep alone");
+    }
+
+    private static String capital(String name) {
+        return Character.toUpperCase(name.charAt(0)) + name.substring(1);
+    }
+
+    private static int depth(Map<String, Set<String>> calls, String method, Set<String> open) {
+        if (!calls.containsKey(method) || !open.add(method)) {
+            return 0;
+        }
+        int most = 0;
+        for (String called : calls.get(method)) {
+            most = Math.max(most, depth(calls, called, open));
+        }
+        open.remove(method);
+        return most + 1;
     }
 
     private static String withoutCommentsAndTexts(String source) {
